@@ -1519,26 +1519,30 @@ public final class ChestnutLine {
                 restPounds[i] = restPounds[i + 1] + pounds[i];
                 restCosts[i] = restCosts[i + 1] + costs[i];
             }
-            search(0, ofPounds, ofCosts, 0);
+            search(this, 0, ofPounds, ofCosts, 0);
         }
 
-        /** At most MOST_POSTS deep: one level a POST. */
-        private void search(int depth, int ofPounds, int ofCosts, int set) {
-            if (depth > size || ofPounds < 0 || ofCosts < 0) {
+        /** At most MOST_POSTS deep, one level a POST; what the POSTS left can't bring about is not searched. */
+        private static void search(Sets in, int depth, int ofPounds, int ofCosts, int set) {
+            if (depth > in.size || depth > MOST_POSTS || ofPounds < 0 || ofCosts < 0) {
                 return;
             }
-            if (ofPounds > restPounds[depth] || ofCosts > restCosts[depth]) {
+            if (ofPounds > in.restPounds[depth] || ofCosts > in.restCosts[depth]) {
                 return;
             }
-            if (depth == size) {
-                found++;
-                sure &= set;
-                maybe |= set;
-                first = Math.min(first, set);
+            if (depth == in.size) {
+                in.keep(set);
                 return;
             }
-            search(depth + 1, ofPounds, ofCosts, set);
-            search(depth + 1, ofPounds - pounds[depth], ofCosts - costs[depth], set | bits[depth]);
+            search(in, depth + 1, ofPounds, ofCosts, set);
+            search(in, depth + 1, ofPounds - in.pounds[depth], ofCosts - in.costs[depth], set | in.bits[depth]);
+        }
+
+        private void keep(int set) {
+            found++;
+            sure &= set;
+            maybe |= set;
+            first = Math.min(first, set);
         }
 
         /**
