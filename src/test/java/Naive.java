@@ -28,7 +28,9 @@ final class Naive {
     final int n;
 
     Naive(Random random, int most) {
-        n = 2 + random.nextInt(most - 1);
+        n = random.nextInt(6) == 0 ? most : 2 + random.nextInt(most - 1);
+        // A long line has fewer STATIONS and ODDS, so that the tape has room for it.
+        int rare = n > 9 ? 4 : 2;
         minutes = new int[n];
         grades = new int[n];
         pounds = new int[n];
@@ -39,8 +41,8 @@ final class Naive {
             minutes[p] = 1 + random.nextInt(plain ? 4 : 30);
             grades[p] = plain ? random.nextInt(2) : random.nextInt(4);
             pounds[p] = random.nextInt(4) == 0 ? 0 : random.nextInt(plain ? 6 : 31);
-            odds[p] = random.nextInt(3) == 0 ? 0 : random.nextInt(11);
-            printed[p] = random.nextBoolean() ? random.nextInt(60) : null;
+            odds[p] = random.nextInt(rare) != 0 ? 0 : random.nextInt(11);
+            printed[p] = random.nextInt(rare) == 0 ? random.nextInt(60) : null;
         }
         int many = random.nextInt(7);
         for (int r = 0; r < many; r++) {

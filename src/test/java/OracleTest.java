@@ -27,6 +27,8 @@ public final class OracleTest {
             plans(random, random.nextInt(10));
             riders(random, random.nextInt(4));
             sets(random, random.nextInt(4));
+            logs(random);
+            logs(random);
             odds(random);
             risks();
         }
@@ -233,10 +235,12 @@ public final class OracleTest {
     }
 
     private static void sets(Random random, int week) {
-        int limit = random.nextInt(random.nextBoolean() ? 60 : 1000);
-        int[] purse = m.purse(week, limit);
-        for (int what = 0; what < 3; what++) {
-            Told.due("purse of " + limit + ", " + what + of, x.purse(0, week, limit, what), purse[what]);
+        int[] limits = {999, random.nextInt(1000), random.nextInt(60), random.nextInt(60), random.nextInt(20)};
+        for (int i = 0; i < limits.length; i++) {
+            int[] purse = m.purse(week + i, limits[i]);
+            for (int what = 0; what < 3; what++) {
+                Told.due("purse of " + limits[i] + ", " + what + of, x.purse(0, week + i, limits[i], what), purse[what]);
+            }
         }
         int set = random.nextInt(1 << m.n - 1);
         for (int p = 0; p < m.n; p++) {
@@ -248,12 +252,11 @@ public final class OracleTest {
         Told.due("shells" + of, x.shells(0, week, pounds, costs, 0), shells.size());
         Told.due("shells, SURE" + of, x.shells(0, week, pounds, costs, 1), sure(shells));
         Told.due("shells, MAYBE" + of, x.shells(0, week, pounds, costs, 2), maybe(shells));
-        logs(random);
     }
 
     private static void logs(Random random) {
         int stops = random.nextInt(1 << m.n - 1);
-        int[][] log = new int[random.nextInt(4)][2];
+        int[][] log = new int[m.n > 12 ? random.nextInt(2) : random.nextInt(4)][2];
         StringBuilder text = new StringBuilder();
         for (int[] seen : log) {
             seen[0] = random.nextInt(m.n);

@@ -19,6 +19,7 @@ public final class SampleTest {
         meetings(x);
         logs(x);
         riders(x);
+        fullLine();
         Told.finish();
     }
 
@@ -207,6 +208,11 @@ public final class SampleTest {
         Told.due("purse, least COSTS", y.purse(0, 0, 5, 1), 6);
         Told.due("purse, least number", y.purse(0, 0, 2, 1), 2);
         Told.due("purse, not the last POST", y.purse(0, 0, 999, 0), 15);
+        // What an earlier question found is forgotten.
+        ChestnutLine z = Told.line(Told.SAMPLE);
+        Told.due("purse of 10", z.purse(0, 0, 10, 0), 21);
+        Told.due("purse of 10 in week 9", z.purse(0, 9, 10, 0), 3);
+        Told.due("purse of 10 in week 9, COSTS", z.purse(0, 9, 10, 2), 7);
     }
 
     /* COSTS 3 by 5 of 10, 19 by 2 of 10. */
@@ -372,6 +378,13 @@ public final class SampleTest {
         holds("seen 3 15;", 2, 0, 8, 0);
         holds("seen 4 29;seen 3 20;", 0, -1, 0, -1);
         holds("seen 4 34;seen 3 20;", 1, 12, 12, 12);
+        // What an earlier question looked at is forgotten.
+        ChestnutLine y = Told.line(Told.SAMPLE);
+        Told.text(y, 2, -1, "seen 0 1;seen 3 15;seen 4 999;");
+        Told.due("hold of what can't be", y.hold(0, 0, 0), 0);
+        Told.text(y, 2, -1, "");
+        Told.due("hold of nothing", y.hold(0, 1, 0), 16);
+        Told.due("hold of nothing, SURE", y.hold(0, 1, 1), 0);
     }
 
     private static void holds(String log, int many, int sure, int maybe, int first) {
@@ -446,6 +459,39 @@ public final class SampleTest {
         ChestnutLine y = Told.line("post 1 0 9;post 1 0 0;rider 0 1 9 1 99 4;rider 0 1 9 1 99 4;");
         Told.due("BID of the first", y.bid(0, 0, 0, 0), 4);
         Told.due("BID of the second", y.bid(0, 0, 1, 0), 5);
+    }
+
+    /** As many of all as may be, so that every row is used to its end. */
+    private static void fullLine() {
+        StringBuilder text = new StringBuilder("post 1 0 9;".repeat(16) + "rider 0 15 60 1 99 9;".repeat(6));
+        for (int post = 0; post < 16; post++) {
+            text.append("station ").append(post).append(" 0;");
+        }
+        ChestnutLine x = Told.line(text + "halt 1;other 0;");
+        Told.text(x, 1, -1, "pull 0 0;".repeat(16));
+        Told.text(x, 2, -1, "seen 15 16;".repeat(10));
+        Told.due("STATIONS", x.line(0, 7), 65535);
+        // RIDERS 0 and 1 fill their POCKETS at POSTS 6 and 13, and leave 3 there.
+        Told.due("POUNDS by FREE", x.run(0, 0, 0, 0, 1), 129);
+        Told.due("STOPS by ONE", x.run(0, 1, 0, 0, 7), 63);
+        Told.due("the last POST", x.run(0, 0, 0, 0, 115), 30);
+        Told.due("the last RIDER by ONE", x.run(0, 1, 0, 0, 205), 6);
+        Told.due("LATE at the last POST", x.late(0, 0, 0, 0, 15), 30);
+        Told.due("LEFT", x.left(0, 0, 0, 0, -1), 15);
+        Told.due("PURSE", x.purse(0, 0, 999, 1), 32767);
+        Told.due("SHELLS", x.shells(0, 0, 63, 7, 0), 6435);
+        Told.due("HOLD", x.hold(0, 0, 0), 15);
+        Told.due("HOLD, MAYBE", x.hold(0, 0, 2), 32767);
+        Told.due("the last PULL", x.pull(0, 15, 1), 0);
+        Told.due("the last SEEN one", x.seen(0, 9, 1), 16);
+        Told.due("played", x.played(0, 0, 0, 0), 1);
+        Told.due("PRINT", x.print(0, 15, 100), 15);
+        // OTHER at POST p at 15 - p: ours waits at POST 7 till 8, then it is past.
+        Told.due("WAITS", x.meet(0, -1, 0, 0, 1), 1);
+        Told.due("WAIT at POST 7", x.meet(0, -1, 0, 0, 207), 1);
+        Told.due("WAIT at the last POST", x.meet(0, -1, 0, 0, 215), 0);
+        // All but one keep back: who pulls at each of the 15 fills his POCKET at the seventh.
+        Told.due("CALM of 7", x.calm(0, 0, 7), 31);
     }
 
     private static void withoutRiders() {

@@ -96,6 +96,54 @@ public final class TextTest {
         Told.faulty(0, TWO + "halt 1 1;", 1, 29);
         Told.faulty(0, TWO + "halts 1;", 1, 22);
         Told.faulty(0, TWO + "rider 0 1 1 1 0;", 1, 37);
+        Told.faulty(1, "pullz 0 0;", 1, 0);
+        Told.faulty(1, "apull 0 0;", 1, 0);
+        Told.faulty(1, "pull 0 0;{", 1, 9);
+        Told.faulty(1, "pull 0 0;`", 1, 9);
+        Told.faulty(1, "pull 0 /;", 1, 7);
+        Told.faulty(1, "pull 0 :;", 1, 7);
+        otherWords(1, "pull 0 0;");
+        otherWords(2, "seen 0 0;");
+        String[] rows = {"post 1 0 0;", "rider 0 1 1 1 0 0;", "station 0 0;", "odds 0 0;", "halt 1;", "eat 0;", "grace 0;",
+            "bishop 0;", "other 0;"};
+        for (String row : rows) {
+            Told.fine(0, TWO + row);
+            otherWords(0, row);
+        }
+        staleBytes();
+    }
+
+    /** Each letter of a word changed in turn: no such word goes on. */
+    private static void otherWords(int sort, String row) {
+        for (int i = 0; row.charAt(i) != ' '; i++) {
+            Told.faulty(sort, row.substring(0, i) + "q" + row.substring(i + 1), 1, 0);
+        }
+    }
+
+    /** Bytes behind the tape's end, of it or of an earlier one, are not read. */
+    private static void staleBytes() {
+        ChestnutLine x = new ChestnutLine();
+        Told.due("a long text", Told.text(x, 1, -1, "pull 12 3;pull 14 5;"), 0);
+        Told.due("a shorter one", Told.text(x, 1, -1, "pull 1"), -1);
+        Told.due("its end", x.fault(1), 6);
+        Told.due("a shorter word", Told.text(x, 1, -1, "pul"), -1);
+        Told.due("its place", x.fault(1), 0);
+        Told.feed(x, "pull 12 3;pull");
+        x.end(10);
+        Told.due("a tape cut short", x.text(1, -1), 1);
+        Told.feed(x, "pull 12 34");
+        x.end(9);
+        x.feed(0x3b202020, 0x20202020, 0x20202020, 0x20202020, 0x20202020);
+        Told.due("a tape cut short that goes on", x.text(1, 0), 0);
+        Told.due("pull(0, 0, 1)", x.pull(0, 0, 1), 3);
+        for (int last : new int[] {'a', '7', ' ', ';'}) {
+            ChestnutLine y = new ChestnutLine();
+            for (int i = 0; i < 30; i++) {
+                y.feed(0x0a0a0a0a, 0x20202020, 0x0a0a0a0a, 0x20202020, 0x20202000 + (i == 29 ? last : 32));
+            }
+            Told.due("a full tape", y.text(1, -1), last == ' ' ? 0 : -1);
+            Told.due("a full tape's FAULT", y.fault(1), last == ' ' ? -1 : 599);
+        }
     }
 
     private static void numbersThatCantBe() {
