@@ -179,6 +179,11 @@ public final class SampleTest {
         playedStops("pull 0 0;pull 2 0;pull 3 0;", 1, 9);
         playedStops("pull 0 0;pull 3 0;", 2, 10);
         playedStops("", 0, 0);
+        // Some are left at POST 0, and RIDER 1 has room, but the train does not STOP twice.
+        ChestnutLine y = Told.line("post 1 0 9;post 1 0 0;rider 0 1 4 1 9 0;rider 0 1 4 1 9 0;");
+        Told.text(y, 1, -1, "pull 0 0;pull 0 1;");
+        Told.due("a POST twice", y.played(0, 0, 0, 0), 1);
+        Told.due("a POST twice, POUNDS", y.played(0, 0, 0, 1), 4);
     }
 
     private static void playedStops(String plan, int stop, int pounds) {
