@@ -77,14 +77,16 @@ public final class ChestnutLine {
     }
 
     public int text(int sort, int at) {
+        int taken = now.length;
+        int place = placeFor(sort, at);
+        // The tape is taken and the FAULT is this call's, even where no text is read.
+        now.length = 0;
         now.fault = 0;
         now.place = NONE;
-        int place = placeFor(sort, at);
         if (place == ABSENT) {
             return ABSENT;
         }
-        reader.readTape(now.tape, now.length, sort);
-        now.length = 0;
+        reader.readTape(now.tape, taken, sort);
         now.fault = reader.fault;
         now.place = reader.place;
         if (reader.fault != 0) {

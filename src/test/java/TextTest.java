@@ -215,38 +215,58 @@ public final class TextTest {
 
     private static void places() {
         ChestnutLine x = new ChestnutLine();
-        Told.feed(x, TWO);
-        Told.due("text(3, NONE)", x.text(3, -1), -2);
-        Told.due("text(-1, NONE)", x.text(-1, -1), -2);
-        Told.due("text(0, 0) with none there", x.text(0, 0), -2);
-        Told.due("text(0, -2)", x.text(0, -2), -2);
-        Told.due("the tape is not taken", x.end(22), 22);
-        Told.due("text(0, NONE)", x.text(0, -1), 0);
+        refused(x, 3, -1, TWO);
+        refused(x, -1, -1, TWO);
+        refused(x, 3, 0, TWO);
+        refused(x, Integer.MIN_VALUE, -1, TWO);
+        refused(x, Integer.MAX_VALUE, -1, TWO);
+        refused(x, 0, 0, TWO);
+        refused(x, 0, -2, TWO);
+        Told.due("text(0, NONE)", Told.text(x, 0, -1, TWO), 0);
         Told.due("the tape is taken", x.end(1), -1);
-        Told.due("text(0, 1) with one there", Told.text(x, 0, 1, TWO + POST), -2);
-        Told.due("text(0, NONE)", x.text(0, -1), 1);
+        refused(x, 0, 1, TWO + POST);
+        Told.due("text(0, NONE)", Told.text(x, 0, -1, TWO + POST), 1);
         Told.due("line(1, 0)", x.line(1, 0), 3);
-        Told.due("text(0, NONE) faulty", Told.text(x, 1, -1, "pull 0;"), -1);
-        Told.due("fault(0)", x.fault(0), 1);
-        Told.due("text(0, NONE) with two there", Told.text(x, 0, -1, POST.repeat(4)), -2);
-        Told.due("fault(0)", x.fault(0), 0);
-        Told.due("fault(1)", x.fault(1), -1);
-        Told.due("text(0, 2)", x.text(0, 2), -2);
-        Told.due("text(0, 0)", x.text(0, 0), 0);
+        refused(x, 0, -1, POST.repeat(4));
+        refused(x, 0, 2, POST.repeat(4));
+        refused(x, 0, Integer.MAX_VALUE, POST.repeat(4));
+        refused(x, 0, Integer.MIN_VALUE, POST.repeat(4));
+        Told.due("text(0, 0)", Told.text(x, 0, 0, POST.repeat(4)), 0);
         Told.due("line(0, 0)", x.line(0, 0), 4);
         Told.due("text(0, 1) faulty", Told.text(x, 0, 1, "x"), -1);
         Told.due("line(1, 0) stays", x.line(1, 0), 3);
         Told.due("count(0)", x.count(0), 2);
         for (int sort = 1; sort < 3; sort++) {
             String row = sort == 1 ? "pull 1 2;" : "seen 1 2;";
+            refused(x, sort, 0, row);
             Told.due("a first", Told.text(x, sort, -1, row), 0);
             Told.due("a second", Told.text(x, sort, -1, row + row), 1);
-            Told.due("a third", Told.text(x, sort, -1, row), -2);
-            Told.due("in place", x.text(sort, 1), 1);
+            refused(x, sort, -1, row);
+            Told.due("in place", Told.text(x, sort, 1, row), 1);
             Told.due("count(" + sort + ")", x.count(sort), 2);
         }
         Told.due("pull(1, NONE, 0)", x.pull(1, -1, 0), 1);
         Told.due("seen(1, NONE, 0)", x.seen(1, -1, 0), 1);
+    }
+
+    /** A text() that answers -2 reads nothing and has no FAULT, but it takes the tape, whatever that has. */
+    private static void refused(ChestnutLine x, int sort, int at, String text) {
+        String call = "text(" + sort + ", " + at + ")";
+        int[] counts = {x.count(0), x.count(1), x.count(2)};
+        for (String tape : new String[] {"", text, text + "no such"}) {
+            // An earlier FAULT, so that it is seen to go.
+            Told.due("a FAULT ahead of " + call, Told.text(x, 0, x.count(0) == 2 ? 1 : -1, "halt 0;"), -1);
+            Told.due("fault(0) ahead of " + call, x.fault(0), 2);
+            Told.due(call + " of " + tape, Told.text(x, sort, at, tape), -2);
+            Told.due("fault(0) behind " + call, x.fault(0), 0);
+            Told.due("fault(1) behind " + call, x.fault(1), -1);
+            Told.due("the tape behind " + call, x.end(1), -1);
+            Told.due("a tape fed behind " + call, x.feed(0, 0, 0, 0, 0), 20);
+            Told.due("the tape's end", x.end(0), 0);
+        }
+        for (int i = 0; i < counts.length; i++) {
+            Told.due("count(" + i + ") behind " + call, x.count(i), counts[i]);
+        }
     }
 
     private static void defaultsAndLaterOnes() {
