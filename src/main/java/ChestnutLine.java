@@ -1216,7 +1216,6 @@ public final class ChestnutLine {
                 kept[rider] = 0;
             }
             pulledBefore = 0;
-            drawn = 0;
             stops = 0;
             stopCount = 0;
             delay = 0;
@@ -1446,7 +1445,6 @@ public final class ChestnutLine {
         void fill(Line line, int week, int limit) {
             for (int costs = 0; costs <= limit && costs <= MOST_LIMIT; costs++) {
                 pounds[costs] = NONE;
-                posts[costs] = 0;
             }
             pounds[0] = 0;
             for (int post = 0; post < line.posts - 1; post++) {

@@ -2,6 +2,7 @@ import java.lang.reflect.InvocationTargetException;
 import java.lang.reflect.Method;
 import java.util.Arrays;
 import java.util.Comparator;
+import java.util.List;
 import java.util.Random;
 
 /**
@@ -14,11 +15,13 @@ public final class AnyCallsTest {
     private static final String[] WORDS = {"post", "rider", "station", "odds", "halt", "eat", "grace", "bishop", "other",
         "pull", "seen", "pos", "postt", ";", "0", "1", "2", "15", "16", "30", "999", "1000", "\u00ff", "A", "-1"};
     private static final Method[] FACE = face();
+    private static final List<String> TELLING = List.of("feed", "end", "text", "image", "again");
 
     public static void main(String[] args) throws IllegalAccessException {
         for (int seed = 0; seed < 300; seed++) {
             sameAnswers(seed);
             imageComesBack(seed);
+            asANewObject(seed);
         }
         Told.finish();
     }
@@ -67,8 +70,27 @@ public final class AnyCallsTest {
         Told.due("as the image has it, seed " + seed, allAnswers(x), before);
     }
 
+    /** What is asked has the answer of a new object that was told the same, whatever was asked ahead of it. */
+    private static void asANewObject(int seed) throws IllegalAccessException {
+        ChestnutLine x = new ChestnutLine();
+        tellSomething(x, new Random(seed));
+        tellSomething(x, new Random(seed + 1));
+        Random random = new Random(seed + 2000000L);
+        for (int i = 0; i < 30; i++) {
+            ChestnutLine y = new ChestnutLine();
+            tellSomething(y, new Random(seed));
+            tellSomething(y, new Random(seed + 1));
+            Method call = FACE[random.nextInt(FACE.length)];
+            if (!TELLING.contains(call.getName())) {
+                Object[] with = anyArguments(random, call);
+                String name = call.getName() + Arrays.toString(with) + " behind others, of seed " + seed;
+                Told.due(name, answer(x, call, with), answer(y, call, with));
+            }
+        }
+    }
+
     private static void tellSomething(ChestnutLine x, Random random) {
-        for (int i = 0; i < 6; i++) {
+        for (int i = 0; i < 4; i++) {
             int sort = random.nextInt(3);
             int at = random.nextInt(3) - 1;
             if (sort == 0) {
@@ -87,10 +109,10 @@ public final class AnyCallsTest {
         Random random = new Random(5);
         long sum = 0;
         for (Method call : FACE) {
-            if (Arrays.asList("feed", "end", "text", "image", "again").contains(call.getName())) {
+            if (TELLING.contains(call.getName())) {
                 continue;
             }
-            for (int i = 0; i < 20; i++) {
+            for (int i = 0; i < 3; i++) {
                 sum = sum * 31 + answer(x, call, anyArguments(random, call));
             }
         }

@@ -17,15 +17,20 @@ public final class OracleTest {
                 continue;
             }
             told++;
-            x = Told.line(text);
             of = " on line " + trial;
+            anew(text);
             told();
             for (int i = 0; i < 6; i++) {
                 runs(random.nextInt(5) - 1, random.nextInt(), random.nextInt(10));
+                if (i % 2 == 1) {
+                    anew(text);
+                }
             }
             overLaws(random.nextInt(), random.nextInt(10));
             plans(random, random.nextInt(10));
+            anew(text);
             riders(random, random.nextInt(4));
+            anew(text);
             sets(random, random.nextInt(4));
             logs(random);
             logs(random);
@@ -33,6 +38,11 @@ public final class OracleTest {
             risks();
         }
         Told.finish();
+    }
+
+    /** An object is asked at most 512 times: what it answers later is free. */
+    private static void anew(String text) {
+        x = Told.line(text);
     }
 
     private static void told() {

@@ -4,23 +4,27 @@ public final class SampleTest {
     private static final String EARLIER = Told.SAMPLE.replace("other 20;", "other 12;");
 
     public static void main(String[] args) {
+        told(sample());
+        freeRun(sample());
+        otherLaws(sample());
+        plan(sample());
+        purses(sample());
+        odds(sample());
+        shells(sample());
+        meetings(sample());
+        logs(sample());
+        riders(sample());
+        fullLine();
+        Told.finish();
+    }
+
+    private static ChestnutLine sample() {
         ChestnutLine x = Told.line(Told.SAMPLE);
         Told.due("text", Told.text(x, 0, -1, EARLIER), 1);
         Told.due("text", Told.text(x, 1, -1, "pull 0 0;pull 1 1;pull 3 1;"), 0);
         Told.due("text", Told.text(x, 2, -1, "seen 2 31;seen 4 44;"), 0);
         Told.due("text", Told.text(x, 2, -1, "seen 1 8;"), 1);
-        told(x);
-        freeRun(x);
-        otherLaws(x);
-        plan(x);
-        purses(x);
-        odds(x);
-        shells(x);
-        meetings(x);
-        logs(x);
-        riders(x);
-        fullLine();
-        Told.finish();
+        return x;
     }
 
     private static void told(ChestnutLine x) {

@@ -9,8 +9,14 @@ final class Told {
 
     private static int wrong = 0;
     private static int asked = 0;
+    private static String about = "";
 
     private Told() {
+    }
+
+    /** What the next answers are about: told where one is wrong. */
+    static void about(String what) {
+        about = "[" + what + "] ";
     }
 
     static void due(String call, long got, long want) {
@@ -18,7 +24,7 @@ final class Told {
         if (got != want) {
             wrong++;
             if (wrong <= 40) {
-                System.out.println(call + " answered " + got + ", due is " + want);
+                System.out.println(about + call + " answered " + got + ", due is " + want);
             }
         }
     }
