@@ -92,10 +92,10 @@ final class EdgesOfRiders {
         Edge.row("the last ones", k -> x.rest(0, 0, k), 62, 62, 63, -2);
         ChestnutLine y = Told.line(Told.SAMPLE);
         Edge.row("REST of the sample", k -> y.rest(0, 0, k), -1, 2, 1, 3, -2);
-        // What was found for a VOTE is nothing to REST.
-        Told.due("VOTE", y.vote(0, 0, 0, false), 1);
-        Edge.row("REST behind it", k -> y.rest(0, 0, k), -1, 2, 1, 3, -2);
         ChestnutLine z = Edge.twoLines();
+        // What was found for a VOTE is nothing to REST.
+        Told.due("VOTE", z.vote(1, 0, 0, false), 0);
+        Edge.row("REST behind it", k -> z.rest(1, 0, k), -1, 1, 1, -2);
         Edge.row("how many by weeks", week -> z.rest(1, week, -1), 0, 1, 1, 1, 2, 2, 2, 2, 2, 2, 2);
     }
 

@@ -510,20 +510,33 @@ final class EdgesOfTexts {
     private static void bytesBetween() {
         Doc.term(1, "blanks (10, 32) between", "; one byte.");
         for (int b = 0; b < 256; b++) {
-            byte[] text = "pull 1 2;".getBytes(StandardCharsets.ISO_8859_1);
-            text[4] = (byte) b;
-            ChestnutLine x = new ChestnutLine();
-            Told.feed(x, text);
-            // A letter makes another word; digits make POSTS 01 and 11, which can be, and 21 to 91, which can't.
             boolean letter = b >= 'a' && b <= 'z';
-            boolean lasts = b == 10 || b == 32 || b == '0' || b == '1';
-            Told.due("byte " + b, x.text(1, -1), lasts ? 0 : -1);
-            Told.due("FAULT of byte " + b, x.fault(0), lasts ? 0 : b >= '2' && b <= '9' ? 2 : 1);
-            Told.due("place of byte " + b, x.fault(1), lasts ? -1 : letter ? 0 : 4);
+            boolean digit = b >= '0' && b <= '9';
+            boolean blank = b == 10 || b == 32;
+            // Behind the word: a letter makes another word, digits make POSTS, of which 01 and 11 can be.
+            boolean fine = blank || b == '0' || b == '1';
+            oneByte(4, b, fine ? 0 : digit ? 2 : 1, fine ? -1 : letter ? 0 : 4);
+            // The word's first byte.
+            oneByte(0, b, b == 'p' ? 0 : 1, b == 'p' ? -1 : blank ? 1 : 0);
+            // The NUMBER: without it the next one is taken for it, and the mark comes too early.
+            oneByte(5, b, digit ? 0 : 1, digit ? -1 : blank ? 8 : 5);
+            // The mark: without it the text ends too early.
+            oneByte(8, b, b == ';' ? 0 : 1, b == ';' ? -1 : blank || digit ? 9 : 8);
         }
         Told.faulty(1, "pull 1 2;;", 1, 9);
         Told.faulty(1, ";", 1, 0);
         Told.faulty(1, "pull 1 2:", 1, 8);
+    }
+
+    /** One byte of a PULL's text is another one. */
+    private static void oneByte(int place, int b, int fault, int faultPlace) {
+        byte[] text = "pull 1 2;".getBytes(StandardCharsets.ISO_8859_1);
+        text[place] = (byte) b;
+        ChestnutLine x = new ChestnutLine();
+        Told.feed(x, text);
+        Told.due("byte " + b + " at " + place, x.text(1, -1), fault == 0 ? 0 : -1);
+        Told.due("FAULT of byte " + b + " at " + place, x.fault(0), fault);
+        Told.due("place of byte " + b + " at " + place, x.fault(1), faultPlace);
     }
 
     private static void digits() {

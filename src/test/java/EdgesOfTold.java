@@ -10,6 +10,7 @@ final class EdgesOfTold {
         riders();
         pulls();
         seenOnes();
+        refusedQuestions();
     }
 
     private static void lines() {
@@ -125,5 +126,53 @@ final class EdgesOfTold {
         Edge.range("seen of a full one", k -> x.seen(1, k, 1), 0, 2, 9, 2, -2);
         // PLANS and LOGS are apart.
         Told.due("no PLAN by a LOG", x.pull(0, -1, 0), -2);
+    }
+
+    /** Questions that are refused leave all that is told as it was. */
+    private static void refusedQuestions() {
+        Told.about("behind refused questions");
+        ChestnutLine x = Edge.twoLines();
+        Told.text(x, 1, -1, "pull 1 2;pull 3 4;");
+        Told.text(x, 2, -1, "seen 5 66;");
+        Told.text(x, 0, -1, "halt 1;?");
+        Told.text(x, 0, 0, "halt 10;");
+        Told.feed(x, "pull 9 0;");
+        long before = allTold(x);
+        for (int none : new int[] {-3, 10, Integer.MIN_VALUE, Integer.MAX_VALUE}) {
+            Told.due("line", x.line(none, none) + x.line(0, 1000 + none % 1000), -4);
+            Told.due("post, rider", x.post(0, none, 0) + x.rider(0, none, 0), -3);
+            Told.due("run, who, late", x.run(0, 0, none, none, 0) + x.who(0, none, 0, 0, 0) + x.late(0, 0, 0, none, 0), -5);
+            Told.due("purse, rest", x.purse(0, 0, 0, none) + x.rest(none, 0, 0), -3);
+            Told.due("gain", x.gain(0, 0, 0, none), -1000000);
+            Told.due("chance, slack", x.chance(none, 0, true) + x.slack(none, 0), -2);
+            Told.due("shells, meet", x.shells(0, 0, 0, 0, none) + x.meet(none, 0, 0, 0, 0), -3);
+            Told.due("pull, played, print", x.pull(0, none, 0) + x.played(0, none, 0, 0) + x.print(0, none, 50), -5);
+            Told.due("most, weeks, calm", x.most(none, 0, 0, true) + x.weeks(0, none, 0, true) + x.calm(none, 0, 0), -3);
+            Told.due("rich, lots", x.rich(0, none, 0, 0, true) + x.lots(none, 0, 0, 1, 0), -2);
+            Told.due("seen, hold, risk", x.seen(0, none, 0) + x.hold(0, none, 0) + x.risk(0, none), -5);
+            Told.due("vote, left, bid", x.vote(none, 0, 0, true) + x.left(none, 0, 0, 0, 0) + x.bid(0, 0, none, 0), -4);
+            Told.due("count, fault", x.count(none) + x.fault(none), -3);
+        }
+        Told.due("all that is told", allTold(x), before);
+        Edge.row("the FAULT", x::fault, 0, 2, 5);
+        Told.due("the tape", x.end(10), -1);
+        Told.due("the tape's text", x.text(1, -1), 1);
+        Told.due("its POST", x.pull(1, 0, 0), 9);
+    }
+
+    private static long allTold(ChestnutLine x) {
+        long sum = 0;
+        for (int line = 0; line < 2; line++) {
+            for (int what = 0; what < 8; what++) {
+                sum = sum * 31 + x.line(line, what);
+            }
+            for (int i = 0; i < 5; i++) {
+                for (int what = 0; what < 6; what++) {
+                    sum = sum * 31 + x.post(line, i, what) + 17L * x.rider(line, i, what);
+                }
+            }
+            sum = sum * 31 + x.pull(0, line, 0) + 7L * x.pull(0, line, 1) + 17L * x.seen(0, 0, line);
+        }
+        return sum;
     }
 }

@@ -12,6 +12,7 @@ public final class TextTest {
         postsNotThere();
         firstFault();
         places();
+        placesOfPairs();
         defaultsAndLaterOnes();
         images();
         imagesOfTapeAndFault();
@@ -215,11 +216,11 @@ public final class TextTest {
 
     private static void places() {
         ChestnutLine x = new ChestnutLine();
-        refused(x, 3, -1, TWO);
-        refused(x, -1, -1, TWO);
-        refused(x, 3, 0, TWO);
-        refused(x, Integer.MIN_VALUE, -1, TWO);
-        refused(x, Integer.MAX_VALUE, -1, TWO);
+        refused(new ChestnutLine(), 3, -1, TWO);
+        refused(new ChestnutLine(), -1, -1, TWO);
+        refused(new ChestnutLine(), 3, 0, TWO);
+        refused(new ChestnutLine(), Integer.MIN_VALUE, -1, TWO);
+        refused(new ChestnutLine(), Integer.MAX_VALUE, -1, TWO);
         refused(x, 0, 0, TWO);
         refused(x, 0, -2, TWO);
         Told.due("text(0, NONE)", Told.text(x, 0, -1, TWO), 0);
@@ -236,6 +237,10 @@ public final class TextTest {
         Told.due("text(0, 1) faulty", Told.text(x, 0, 1, "x"), -1);
         Told.due("line(1, 0) stays", x.line(1, 0), 3);
         Told.due("count(0)", x.count(0), 2);
+    }
+
+    private static void placesOfPairs() {
+        ChestnutLine x = new ChestnutLine();
         for (int sort = 1; sort < 3; sort++) {
             String row = sort == 1 ? "pull 1 2;" : "seen 1 2;";
             refused(x, sort, 0, row);
