@@ -1512,7 +1512,7 @@ public final class ChestnutLine {
             found = 0;
             sure = -1;
             maybe = 0;
-            first = Integer.MAX_VALUE;
+            first = 0;
             restPounds[size] = 0;
             restCosts[size] = 0;
             for (int i = size - 1; i >= 0; i--) {
@@ -1542,7 +1542,7 @@ public final class ChestnutLine {
             found++;
             sure &= set;
             maybe |= set;
-            first = Math.min(first, set);
+            first = found == 1 ? set : Math.min(first, set);
         }
 
         /**

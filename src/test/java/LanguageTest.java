@@ -1,4 +1,5 @@
 import java.io.IOException;
+import java.lang.reflect.Array;
 import java.lang.reflect.Field;
 import java.lang.reflect.Member;
 import java.lang.reflect.Method;
@@ -7,7 +8,9 @@ import java.nio.file.Files;
 import java.nio.file.Path;
 import java.util.ArrayList;
 import java.util.List;
+import java.util.Map;
 import java.util.Set;
+import java.util.TreeMap;
 import java.util.TreeSet;
 import java.util.regex.Matcher;
 import java.util.regex.Pattern;
@@ -15,14 +18,25 @@ import java.util.regex.Pattern;
 /** The face of the document, and those rules of LANGUAGE.md that can be read off the source or the class. */
 public final class LanguageTest {
     private static final int MOST_LINES = 60;
+    private static final int MOST_DEEP = 8;
+    /* As many objects as a run of calls can make, each with a call at least: all of them have to fit into the room. */
+    private static final int MOST_MADE = 512;
+    private static final int ROOM_FOR_OBJECTS = 600_000;
+    private static final int ROOM_FOR_FIELDS = 7_300_000;
 
-    public static void main(String[] args) throws IOException {
+    private static int objects = 0;
+    private static int elements = 0;
+
+    public static void main(String[] args) throws IOException, IllegalAccessException {
         String doc = Files.readString(Path.of("../shared/DOC.md"));
         String source = Files.readString(Path.of("src/main/java/ChestnutLine.java"));
         face(doc);
         members();
         words(withoutComments(source));
         lengths(source);
+        library(withoutComments(source));
+        depths(withoutComments(source));
+        room();
         Told.finish();
     }
 
@@ -133,6 +147,93 @@ public final class LanguageTest {
                     end++;
                 }
                 Told.due("short: " + lines[i].trim(), end - i <= MOST_LINES, true);
+            }
+        }
+    }
+
+    /** Rule 4: nothing of the library but what stands there (and of that no more than the class has need of). */
+    private static void library(String code) {
+        Set<String> allowed = Set.of("Math.max", "Math.min", "Math.abs", "Integer.bitCount", "System.arraycopy");
+        Matcher used = Pattern.compile("\\b([A-Z][a-z]\\w+)\\.(\\w+)").matcher(code);
+        while (used.find()) {
+            Told.due("of the library: " + used.group(), allowed.contains(used.group()), true);
+        }
+        Set<String> own = declared(code).keySet();
+        Matcher called = Pattern.compile("(?<!Math|Integer|System)\\.(\\w+)\\(").matcher(code);
+        while (called.find()) {
+            boolean ofString = Set.of("length", "charAt").contains(called.group(1));
+            Told.due("a method of its own: " + called.group(1), ofString || own.contains(called.group(1)), true);
+        }
+    }
+
+    /** Which names a method's lines call, by its own name; methods of one name are taken together. */
+    private static Map<String, Set<String>> declared(String code) {
+        Map<String, Set<String>> calls = new TreeMap<>();
+        Pattern head = Pattern.compile("^ {4}(?: {4})?(?:(?:public|private|static) )*[\\w\\[\\]]+ (\\w+)\\([^;]*\\) \\{$");
+        Set<String> inside = new TreeSet<>();
+        for (String line : code.split("\n")) {
+            Matcher matcher = head.matcher(line);
+            if (matcher.matches()) {
+                inside = calls.computeIfAbsent(matcher.group(1), name -> new TreeSet<>());
+            } else {
+                Matcher called = Pattern.compile("\\b(\\w+)\\(").matcher(line);
+                while (called.find()) {
+                    inside.add(called.group(1));
+                }
+            }
+        }
+        return calls;
+    }
+
+    /** Rule 11: calls that are no recursion go at most eight deep; the one that calls itself is counted once. */
+    private static void depths(String code) {
+        Map<String, Set<String>> calls = declared(code);
+        Told.due("methods found", calls.size() > 100, true);
+        for (String name : calls.keySet()) {
+            int deep = depth(calls, name, new ArrayList<>());
+            Told.due(name + " goes " + deep + " deep", deep <= MOST_DEEP, true);
+            // A State's copyFrom calls those of its parts, which are other ones; search has its guard on the depth.
+            boolean may = name.equals("search") || name.equals("copyFrom");
+            Told.due(name + " calls itself", !may && calls.get(name).contains(name), false);
+        }
+    }
+
+    private static int depth(Map<String, Set<String>> calls, String name, List<String> open) {
+        open.add(name);
+        int deepest = 0;
+        for (String called : calls.get(name)) {
+            if (calls.containsKey(called) && !called.equals(name)) {
+                Told.due("no ring of calls: " + open + " " + called, open.contains(called), false);
+                deepest = open.contains(called) ? deepest : Math.max(deepest, depth(calls, called, open));
+            }
+        }
+        open.remove(open.size() - 1);
+        return deepest + 1;
+    }
+
+    /** As calls make nothing (see words), what an object has when it is made is all that it ever takes. */
+    private static void room() throws IllegalAccessException {
+        weigh(new ChestnutLine());
+        Told.due(MOST_MADE + " times " + objects + " objects", objects * MOST_MADE <= ROOM_FOR_OBJECTS, true);
+        Told.due(MOST_MADE + " times " + elements + " elements", elements * MOST_MADE <= ROOM_FOR_FIELDS, true);
+    }
+
+    private static void weigh(Object object) throws IllegalAccessException {
+        objects++;
+        if (object.getClass().isArray()) {
+            elements += Array.getLength(object);
+            for (int i = 0; !object.getClass().getComponentType().isPrimitive() && i < Array.getLength(object); i++) {
+                weigh(Array.get(object, i));
+            }
+            return;
+        }
+        for (Field field : object.getClass().getDeclaredFields()) {
+            if (!Modifier.isStatic(field.getModifiers())) {
+                elements++;
+                field.setAccessible(true);
+                if (!field.getType().isPrimitive()) {
+                    weigh(field.get(object));
+                }
             }
         }
     }

@@ -307,6 +307,7 @@ public final class OracleTest {
         }
         fraction("MEAN", -1, m.leastTerms(mean[0], mean[1]));
         if (m.n > 9) {
+            oddsOfLongLine(random);
             return;
         }
         for (int i = 0; i < 3; i++) {
@@ -323,6 +324,17 @@ public final class OracleTest {
                 Told.due("print of " + p + ", " + q + of, x.print(0, p, q), m.printed[p] == null ? -1 : due);
             }
         }
+    }
+
+    /** SLACK is looked at from both sides alone: by searching for it the naive model would take too long. */
+    private static void oddsOfLongLine(Random random) {
+        int s = random.nextInt(200);
+        fraction("chance", s, m.leastTerms(m.parts(m.n - 1, s), m.power(m.n - 1)));
+        int q = 1 + random.nextInt(100);
+        int slack = x.slack(0, q);
+        long due = q * m.power(m.n - 1);
+        Told.due("slack of " + q + of + " holds", m.parts(m.n - 1, slack) * 100 >= due, true);
+        Told.due("less than slack of " + q + of + " holds", m.parts(m.n - 1, slack - 1) * 100 >= due, false);
     }
 
     private static void fraction(String name, int s, long[] due) {
